@@ -236,6 +236,19 @@ public final class SketchSpans {
         return found;
     }
 
+    /** Where a value stands in a rising row of which so many places are held, or would have to stand. */
+    private static int placeFor(int value, int[] row, int held) {
+        int place = 0;
+        while (place < held && place < row.length && row[place] < value) {
+            place++;
+        }
+        return place;
+    }
+
+    private static boolean standsAt(int place, int value, int[] row, int held) {
+        return place >= 0 && place < held && place < row.length && row[place] == value;
+    }
+
     /** What all SORTS have; a question that a SORT has no answer for is BAD. */
     private abstract static class Sketch {
         final int sort;
@@ -337,7 +350,7 @@ public final class SketchSpans {
 
         void take(int x, int n) {
             int left = n;
-            if (!isAt(placeFor(x), x) && held >= size) {
+            if (held >= size && !standsAt(placeFor(x, keys, held), x, keys, held)) {
                 // Once is enough: it uses up what is left or frees a COUNTER.
                 int less = leastNumber(left);
                 left -= less;
@@ -376,30 +389,17 @@ public final class SketchSpans {
         }
 
         int atLeast(int x) {
-            int place = placeFor(x);
-            return isAt(place, x) ? numbers[place] : 0;
+            int place = placeFor(x, keys, held);
+            return standsAt(place, x, keys, held) ? numbers[place] : 0;
         }
 
         int atMost(int x) {
             return atLeast(x) + lost;
         }
 
-        /** Where x stands, or would have to stand. */
-        private int placeFor(int x) {
-            int place = 0;
-            while (place < held && place < keys.length && keys[place] < x) {
-                place++;
-            }
-            return place;
-        }
-
-        private boolean isAt(int place, int x) {
-            return place >= 0 && place < held && place < keys.length && keys[place] == x;
-        }
-
         private void add(int x, int n) {
-            int place = placeFor(x);
-            if (isAt(place, x)) {
+            int place = placeFor(x, keys, held);
+            if (standsAt(place, x, keys, held)) {
                 numbers[place] += n;
             } else if (held < keys.length) {
                 for (int i = held; i > place; i--) {
@@ -622,7 +622,7 @@ public final class SketchSpans {
 
         int holds(int x) {
             int hash = hashOf(seed, 0, x);
-            return isAt(placeFor(hash), hash) ? 1 : 0;
+            return standsAt(placeFor(hash, hashes, held), hash, hashes, held) ? 1 : 0;
         }
 
         int differentKeys() {
@@ -634,22 +634,9 @@ public final class SketchSpans {
             return greatest < 1 ? held : (size - 1) * HASH_MODULUS / greatest;
         }
 
-        /** Where a HASH stands, or would have to stand. */
-        private int placeFor(int hash) {
-            int place = 0;
-            while (place < held && place < hashes.length && hashes[place] < hash) {
-                place++;
-            }
-            return place;
-        }
-
-        private boolean isAt(int place, int hash) {
-            return place >= 0 && place < held && place < hashes.length && hashes[place] == hash;
-        }
-
         private void add(int hash) {
-            int place = placeFor(hash);
-            if (isAt(place, hash) || place >= hashes.length) {
+            int place = placeFor(hash, hashes, held);
+            if (place >= hashes.length || standsAt(place, hash, hashes, held)) {
                 return;
             }
             // If all places are taken, the greatest one falls off the end.
@@ -710,7 +697,7 @@ public final class SketchSpans {
         void join(Sketch other) {
             if (other instanceof Ranks from) {
                 for (int buffer = 0; buffer < BUFFERS; buffer++) {
-                    for (int i = 0; i < from.lengths[buffer]; i++) {
+                    for (int i = 0; i < from.lengths[buffer] && i < size; i++) {
                         push(buffer, from.keyAt(buffer, i));
                     }
                 }

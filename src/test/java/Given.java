@@ -31,7 +31,7 @@ final class Given {
 
     /** Lets x come to SKETCH 0, to which nothing came, until MOVED is 10,000,000; SKETCH 1 must be LIKE it. */
     static void fillToTheBrim(SketchSpans spans, int x, int n) {
-        int times = 10_000_000 / Math.abs(n);
+        int times = 10_000_000 / Math.abs(n) - 1;
         for (int bit = Integer.highestOneBit(times); bit > 0; bit >>= 1) {
             spans.clear(1);
             spans.merge(1, 0);
@@ -41,6 +41,8 @@ final class Given {
             }
         }
         spans.clear(1);
+        // The last one comes alone: just to the brim it must be taken.
+        Check.due("come to the brim", spans.come(0, x, n), n < 0 ? 0 : LIFT + 10_000_000);
         Check.due("MOVED at the brim", spans.told(0, 4), 10_000_000);
     }
 

@@ -4,6 +4,7 @@ final class Promise11DistinctTest {
         fewAreCountedJustSo();
         manyAreGuessed();
         sizesAtTheEdges();
+        leastHashes();
         refusals();
         Check.end();
     }
@@ -41,6 +42,19 @@ final class Promise11DistinctTest {
         Check.due("31 of 32", most.distinct(0), 31);
         most.come(0, 31, 1);
         Check.due("31 * 65537 / 32", most.distinct(0), 63488);
+    }
+
+    private static void leastHashes() {
+        SketchSpans spans = Given.oneOf(Given.LEAST, 2, 3);
+        Check.due("hash(3, 0, 7668)", spans.hash(3, 0, 7668), 0);
+        Check.due("hash(3, 0, 4182)", spans.hash(3, 0, 4182), 1);
+        Given.comeEach(spans, 0, 7668);
+        Check.due("one", spans.distinct(0), 1);
+        Given.comeEach(spans, 0, 4182);
+        Check.due("65537 / 1", spans.distinct(0), 65537);
+        Given.comeEach(spans, 0, 0, 9999);
+        Check.due("65537 / 1 still", spans.distinct(0), 65537);
+        Check.due("HASH 0 is kept", spans.has(0, 7668), 1);
     }
 
     private static void refusals() {
