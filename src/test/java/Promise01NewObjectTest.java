@@ -7,7 +7,7 @@ final class Promise01NewObjectTest {
     }
 
     private static void hasNoSketches() {
-        SketchSpans spans = new SketchSpans();
+        Counted spans = new Counted();
         Check.due("count()", spans.count(), 0);
         for (int s = -1; s <= 8; s++) {
             Check.due("copy " + s, spans.copy(s), Given.BAD);
@@ -26,9 +26,9 @@ final class Promise01NewObjectTest {
     }
 
     private static void sharesNothing() {
-        SketchSpans first = Given.oneOf(Given.HEAVY, 3, 0);
+        Counted first = Given.oneOf(Given.HEAVY, 3, 0);
         first.come(0, 7, 5);
-        SketchSpans second = new SketchSpans();
+        Counted second = new Counted();
         Check.due("count() of another object", second.count(), 0);
         second.sketch(Given.HEAVY, 3, 0);
         Check.due("low() of another object", second.low(0, 7), 0);

@@ -12,7 +12,7 @@ final class Promise02SketchTest {
     }
 
     private static void numbersRiseUntilFull() {
-        SketchSpans spans = new SketchSpans();
+        Counted spans = new Counted();
         for (int i = 0; i < 8; i++) {
             Check.due("sketch " + i, spans.sketch(i % 5, 16, i), i);
         }
@@ -23,7 +23,7 @@ final class Promise02SketchTest {
 
     private static void sizesHaveEdges() {
         for (int sort = 0; sort < Given.SORTS; sort++) {
-            SketchSpans spans = new SketchSpans();
+            Counted spans = new Counted();
             int least = Given.SMALLEST[sort];
             int most = Given.LARGEST[sort];
             Check.due("least size of " + sort, spans.sketch(sort, least, 0), 0);
@@ -42,15 +42,15 @@ final class Promise02SketchTest {
 
     private static void ranksAreEven() {
         for (int size = 5; size < 32; size += 2) {
-            Check.due("odd " + size, new SketchSpans().sketch(Given.RANKS, size, 0), Given.BAD);
-            Check.due("even", new SketchSpans().sketch(Given.RANKS, size + 1, 0), 0);
-            Check.due("LEAST may be odd", new SketchSpans().sketch(Given.LEAST, size, 0), 0);
+            Check.due("odd " + size, new Counted().sketch(Given.RANKS, size, 0), Given.BAD);
+            Check.due("even", new Counted().sketch(Given.RANKS, size + 1, 0), 0);
+            Check.due("LEAST may be odd", new Counted().sketch(Given.LEAST, size, 0), 0);
         }
     }
 
     private static void seedsHaveEdges() {
         for (int sort = 0; sort < Given.SORTS; sort++) {
-            SketchSpans spans = new SketchSpans();
+            Counted spans = new Counted();
             Check.due("seed 0", spans.sketch(sort, 16, 0), 0);
             Check.due("seed 999", spans.sketch(sort, 16, 999), 1);
             Check.due("seed 1000", spans.sketch(sort, 16, 1000), Given.BAD);
@@ -61,7 +61,7 @@ final class Promise02SketchTest {
     }
 
     private static void sortsHaveEdges() {
-        SketchSpans spans = new SketchSpans();
+        Counted spans = new Counted();
         Check.due("sort 5", spans.sketch(5, 16, 0), Given.BAD);
         for (int wild : Given.WILD) {
             Check.due("sort " + wild, spans.sketch(wild, 16, 0), Given.BAD);
@@ -71,7 +71,7 @@ final class Promise02SketchTest {
 
     private static void nothingCame() {
         for (int sort = 0; sort < Given.SORTS; sort++) {
-            SketchSpans spans = Given.oneOf(sort, 16, 41);
+            Counted spans = Given.oneOf(sort, 16, 41);
             int[] want = {sort, 16, 41, Given.LIFT, 0, 0, 0};
             for (int what = 0; what < want.length; what++) {
                 Check.due("told " + what + " of sort " + sort, spans.told(0, what), want[what]);
@@ -80,7 +80,7 @@ final class Promise02SketchTest {
     }
 
     private static void badGoesBeforeFull() {
-        SketchSpans spans = new SketchSpans();
+        Counted spans = new Counted();
         for (int i = 0; i < 8; i++) {
             spans.sketch(0, 1, 0);
         }

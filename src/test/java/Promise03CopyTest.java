@@ -10,8 +10,8 @@ final class Promise03CopyTest {
         Check.end();
     }
 
-    private static SketchSpans withSomething(int sort) {
-        SketchSpans spans = Given.oneOf(sort, Given.SMALLEST[sort], 17);
+    private static Counted withSomething(int sort) {
+        Counted spans = Given.oneOf(sort, Given.SMALLEST[sort], 17);
         for (int i = 0; i < 23; i++) {
             spans.come(0, i * 37 % 11, 1 + i % 3);
         }
@@ -19,7 +19,7 @@ final class Promise03CopyTest {
     }
 
     private static void isTheSame(int sort) {
-        SketchSpans spans = withSomething(sort);
+        Counted spans = withSomething(sort);
         Check.due("copy(0)", spans.copy(0), 1);
         Check.due("copy(1)", spans.copy(1), 2);
         Check.due("count()", spans.count(), 3);
@@ -29,7 +29,7 @@ final class Promise03CopyTest {
     }
 
     private static void goesItsOwnWay(int sort) {
-        SketchSpans spans = withSomething(sort);
+        Counted spans = withSomething(sort);
         spans.copy(0);
         var before = Given.all(spans, 0);
         spans.come(1, 5000, 7);
@@ -44,7 +44,7 @@ final class Promise03CopyTest {
     }
 
     private static void turnsAreCopied() {
-        SketchSpans spans = Given.oneOf(Given.RANKS, 4, 0);
+        Counted spans = Given.oneOf(Given.RANKS, 4, 0);
         Given.comeEach(spans, 0, 1, 2, 3, 4);
         spans.copy(0);
         Given.comeEach(spans, 1, 5, 6, 7, 8);
@@ -54,7 +54,7 @@ final class Promise03CopyTest {
     }
 
     private static void refusals() {
-        SketchSpans spans = Given.oneOf(Given.LEAST, 2, 0);
+        Counted spans = Given.oneOf(Given.LEAST, 2, 0);
         Check.due("copy(1)", spans.copy(1), Given.BAD);
         for (int wild : Given.WILD) {
             Check.due("copy " + wild, spans.copy(wild), Given.BAD);

@@ -10,7 +10,7 @@ final class Promise04ClearTest {
         Check.end();
     }
 
-    private static void comeOften(SketchSpans spans, int s) {
+    private static void comeOften(Counted spans, int s) {
         for (int i = 0; i < 30; i++) {
             spans.come(s, i * 7919 % 101, 1 + i % 4);
         }
@@ -18,7 +18,7 @@ final class Promise04ClearTest {
 
     private static void isAsItWasMade(int sort) {
         int size = Given.SMALLEST[sort];
-        SketchSpans spans = Given.oneOf(sort, size, 3);
+        Counted spans = Given.oneOf(sort, size, 3);
         spans.sketch(sort, size, 3);
         spans.sketch(sort, size, 3);
         comeOften(spans, 0);
@@ -36,14 +36,14 @@ final class Promise04ClearTest {
     }
 
     private static void totalMayBeBelowZero() {
-        SketchSpans spans = Given.oneOf(Given.TABLE, 4, 0);
+        Counted spans = Given.oneOf(Given.TABLE, 4, 0);
         spans.come(0, 1, -1000);
         spans.come(0, 2, 1);
         Check.due("clear(0)", spans.clear(0), Given.LIFT - 999);
     }
 
     private static void movedStartsAnew() {
-        SketchSpans spans = Given.oneOf(Given.FILTER, 16, 0);
+        Counted spans = Given.oneOf(Given.FILTER, 16, 0);
         spans.sketch(Given.FILTER, 16, 0);
         Given.fillToTheBrim(spans, 1, 1000);
         Check.due("clear(0)", spans.clear(0), Given.LIFT + 10_000_000);
@@ -51,7 +51,7 @@ final class Promise04ClearTest {
     }
 
     private static void refusals() {
-        SketchSpans spans = Given.oneOf(Given.TABLE, 4, 0);
+        Counted spans = Given.oneOf(Given.TABLE, 4, 0);
         Check.due("clear(1)", spans.clear(1), Given.BAD);
         for (int wild : Given.WILD) {
             Check.due("clear " + wild, spans.clear(wild), Given.BAD);

@@ -17,7 +17,7 @@ final class Promise05ComeTest {
     }
 
     private static void heavy() {
-        SketchSpans spans = Given.oneOf(Given.HEAVY, 2, 0);
+        Counted spans = Given.oneOf(Given.HEAVY, 2, 0);
         Check.due("come 1", spans.come(0, 7, 3), Given.LIFT + 3);
         Check.due("come 2", spans.come(0, 2, 5), Given.LIFT + 8);
         Given.keptIs(spans, 0, 0, 2, 7);
@@ -34,30 +34,30 @@ final class Promise05ComeTest {
         heavyIs(spans, 6, new int[] {9}, new int[] {1});
     }
 
-    private static void heavyIs(SketchSpans spans, int lost, int[] keys, int[] numbers) {
+    private static void heavyIs(Counted spans, int lost, int[] keys, int[] numbers) {
         Check.due("LOST", spans.told(0, 5), lost);
         Given.keptIs(spans, 0, 0, keys);
         Given.keptIs(spans, 0, 1, numbers);
     }
 
     private static void table() {
-        SketchSpans spans = Given.oneOf(Given.TABLE, 7, 12);
+        Counted spans = Given.oneOf(Given.TABLE, 7, 12);
         Check.due("come", spans.come(0, 40, 9), Given.LIFT + 9);
         Check.due("come back", spans.come(0, 41, -20), Given.LIFT - 11);
         for (int i = 0; i < 28; i++) {
-            int want = spans.hash(12, i / 7, 40) % 7 == i % 7 ? 9 : 0;
-            want -= spans.hash(12, i / 7, 41) % 7 == i % 7 ? 20 : 0;
+            int want = Given.hash(12, i / 7, 40) % 7 == i % 7 ? 9 : 0;
+            want -= Given.hash(12, i / 7, 41) % 7 == i % 7 ? 20 : 0;
             Check.due("CELL " + i, spans.kept(0, i, 0), Given.LIFT + want);
         }
     }
 
     private static void filter() {
-        SketchSpans spans = Given.oneOf(Given.FILTER, 19, 5);
+        Counted spans = Given.oneOf(Given.FILTER, 19, 5);
         spans.come(0, 40, 1000);
         for (int i = 0; i < 19; i++) {
             int want = 0;
             for (int j = 0; j < 4; j++) {
-                want |= spans.hash(5, j, 40) % 19 == i ? 1 : 0;
+                want |= Given.hash(5, j, 40) % 19 == i ? 1 : 0;
             }
             Check.due("BIT " + i, spans.kept(0, i, 0), want);
         }
@@ -65,7 +65,7 @@ final class Promise05ComeTest {
 
     private static void least() {
         // By SEED 0 HASH 0 of x is x + 1.
-        SketchSpans spans = Given.oneOf(Given.LEAST, 3, 0);
+        Counted spans = Given.oneOf(Given.LEAST, 3, 0);
         Given.comeEach(spans, 0, 50, 20, 50);
         Given.keptIs(spans, 0, 0, 21, 51);
         Given.comeEach(spans, 0, 70);
@@ -77,7 +77,7 @@ final class Promise05ComeTest {
     }
 
     private static void ranks() {
-        SketchSpans spans = Given.oneOf(Given.RANKS, 4, 0);
+        Counted spans = Given.oneOf(Given.RANKS, 4, 0);
         Given.comeEach(spans, 0, 9, 3, 7);
         Given.bufferIs(spans, 0, 0, 9, 3, 7);
         Check.due("no ERROR", spans.told(0, 5), 0);
@@ -97,7 +97,7 @@ final class Promise05ComeTest {
     }
 
     private static void ranksCollapseBetween() {
-        SketchSpans spans = Given.oneOf(Given.RANKS, 6, 0);
+        Counted spans = Given.oneOf(Given.RANKS, 6, 0);
         Given.comeEach(spans, 0, 11, 12, 13, 14, 15, 16);
         Given.bufferIs(spans, 0, 1, 11, 13, 15);
         spans.sketch(Given.RANKS, 6, 0);
@@ -115,7 +115,7 @@ final class Promise05ComeTest {
     }
 
     private static void edges(int sort) {
-        SketchSpans spans = Given.oneOf(sort, 16, 0);
+        Counted spans = Given.oneOf(sort, 16, 0);
         Check.due("the first KEY", spans.come(0, 0, 1), Given.LIFT + 1);
         Check.due("the last KEY", spans.come(0, 9999, MOST[sort]), Given.LIFT + 1 + MOST[sort]);
         var before = Given.all(spans, 0);
@@ -143,7 +143,7 @@ final class Promise05ComeTest {
     }
 
     private static void brim(int sort) {
-        SketchSpans spans = Given.oneOf(sort, Given.SMALLEST[sort], 0);
+        Counted spans = Given.oneOf(sort, Given.SMALLEST[sort], 0);
         spans.sketch(sort, Given.SMALLEST[sort], 0);
         Given.fillToTheBrim(spans, 5, MOST[sort]);
         var before = Given.all(spans, 0);

@@ -18,14 +18,14 @@ final class Promise06MergeTest {
         Check.end();
     }
 
-    private static SketchSpans twoOf(int sort, int size, int seed) {
-        SketchSpans spans = Given.oneOf(sort, size, seed);
+    private static Counted twoOf(int sort, int size, int seed) {
+        Counted spans = Given.oneOf(sort, size, seed);
         Check.due("sketch", spans.sketch(sort, size, seed), 1);
         return spans;
     }
 
     private static void heavyWithRoom() {
-        SketchSpans spans = twoOf(Given.HEAVY, 3, 0);
+        Counted spans = twoOf(Given.HEAVY, 3, 0);
         spans.come(0, 5, 2);
         spans.come(1, 1, 4);
         spans.come(1, 5, 6);
@@ -37,7 +37,7 @@ final class Promise06MergeTest {
     }
 
     private static void heavyWithoutRoom() {
-        SketchSpans spans = twoOf(Given.HEAVY, 2, 0);
+        Counted spans = twoOf(Given.HEAVY, 2, 0);
         spans.come(0, 1, 10);
         spans.come(0, 2, 4);
         spans.come(0, 3, 1);
@@ -53,7 +53,7 @@ final class Promise06MergeTest {
     }
 
     private static void heavyWithTies() {
-        SketchSpans spans = twoOf(Given.HEAVY, 2, 0);
+        Counted spans = twoOf(Given.HEAVY, 2, 0);
         spans.come(0, 1, 3);
         spans.come(0, 2, 3);
         spans.come(1, 3, 3);
@@ -62,7 +62,7 @@ final class Promise06MergeTest {
         Given.keptIs(spans, 0, 0, 4);
         Given.keptIs(spans, 0, 1, 5);
         Check.due("LOST", spans.told(0, 5), 3);
-        SketchSpans even = twoOf(Given.HEAVY, 20, 0);
+        Counted even = twoOf(Given.HEAVY, 20, 0);
         for (int i = 0; i < 20; i++) {
             even.come(0, i, 5);
             even.come(1, 20 + i, 5);
@@ -73,7 +73,7 @@ final class Promise06MergeTest {
     }
 
     private static void table() {
-        SketchSpans spans = twoOf(Given.TABLE, 4, 2);
+        Counted spans = twoOf(Given.TABLE, 4, 2);
         spans.come(0, 11, 100);
         spans.come(1, 11, -300);
         spans.come(1, 12, 7);
@@ -87,7 +87,7 @@ final class Promise06MergeTest {
     }
 
     private static void filter() {
-        SketchSpans spans = twoOf(Given.FILTER, 64, 2);
+        Counted spans = twoOf(Given.FILTER, 64, 2);
         spans.come(0, 11, 1);
         spans.come(1, 4000, 1);
         spans.copy(0);
@@ -98,7 +98,7 @@ final class Promise06MergeTest {
     }
 
     private static void least() {
-        SketchSpans spans = twoOf(Given.LEAST, 4, 0);
+        Counted spans = twoOf(Given.LEAST, 4, 0);
         Given.comeEach(spans, 0, 10, 30, 50);
         Given.comeEach(spans, 1, 20, 30, 40, 60);
         Check.due("merge", spans.merge(0, 1), Given.LIFT + 7);
@@ -107,7 +107,7 @@ final class Promise06MergeTest {
     }
 
     private static void ranks() {
-        SketchSpans spans = twoOf(Given.RANKS, 4, 0);
+        Counted spans = twoOf(Given.RANKS, 4, 0);
         Given.comeEach(spans, 0, 8, 6);
         Given.comeEach(spans, 1, 1, 2, 3, 4, 9, 5, 7);
         Given.bufferIs(spans, 1, 0, 9, 5, 7);
@@ -121,7 +121,7 @@ final class Promise06MergeTest {
     }
 
     private static void ranksKeepTheirTurns() {
-        SketchSpans spans = twoOf(Given.RANKS, 4, 0);
+        Counted spans = twoOf(Given.RANKS, 4, 0);
         Given.comeEach(spans, 1, 1, 2, 3, 4);
         spans.merge(0, 1);
         Given.comeEach(spans, 0, 5, 6, 7, 8);
@@ -130,7 +130,7 @@ final class Promise06MergeTest {
     }
 
     private static void notLike(int sort) {
-        SketchSpans spans = Given.oneOf(sort, 16, 5);
+        Counted spans = Given.oneOf(sort, 16, 5);
         spans.sketch(sort, 18, 5);
         spans.sketch(sort, 16, 6);
         spans.sketch((sort + 1) % Given.SORTS, 16, 5);
@@ -145,7 +145,7 @@ final class Promise06MergeTest {
     }
 
     private static void otherStays(int sort) {
-        SketchSpans spans = twoOf(sort, Given.SMALLEST[sort], 8);
+        Counted spans = twoOf(sort, Given.SMALLEST[sort], 8);
         for (int i = 0; i < 25; i++) {
             spans.come(0, i * 31 % 17, 2);
             spans.come(1, 100 + i * 29 % 13, 3);
@@ -160,7 +160,7 @@ final class Promise06MergeTest {
     }
 
     private static void brim(int sort) {
-        SketchSpans spans = twoOf(sort, Given.SMALLEST[sort], 0);
+        Counted spans = twoOf(sort, Given.SMALLEST[sort], 0);
         int most = sort == Given.RANKS ? 100 : 1000;
         Given.fillToTheBrim(spans, 5, most);
         Check.due("with an empty one", spans.merge(0, 1), Given.LIFT + 10_000_000);
@@ -177,7 +177,7 @@ final class Promise06MergeTest {
     }
 
     private static void refusals() {
-        SketchSpans spans = twoOf(Given.LEAST, 2, 0);
+        Counted spans = twoOf(Given.LEAST, 2, 0);
         Check.due("merge(0, 2)", spans.merge(0, 2), Given.BAD);
         Check.due("merge(2, 0)", spans.merge(2, 0), Given.BAD);
         Check.due("merge(2, 2)", spans.merge(2, 2), Given.BAD);

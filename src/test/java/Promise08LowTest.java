@@ -8,7 +8,7 @@ final class Promise08LowTest {
     }
 
     private static void heavy() {
-        SketchSpans spans = Given.oneOf(Given.HEAVY, 2, 0);
+        Counted spans = Given.oneOf(Given.HEAVY, 2, 0);
         Check.due("nothing came", spans.low(0, 4), 0);
         spans.come(0, 4, 10);
         spans.come(0, 8, 3);
@@ -21,7 +21,7 @@ final class Promise08LowTest {
     }
 
     private static void ranks() {
-        SketchSpans spans = Given.oneOf(Given.RANKS, 4, 0);
+        Counted spans = Given.oneOf(Given.RANKS, 4, 0);
         Check.due("nothing came", spans.low(0, 9999), 0);
         Given.comeEach(spans, 0, 2, 4);
         Check.due("low(0, 1)", spans.low(0, 1), 0);
@@ -39,7 +39,7 @@ final class Promise08LowTest {
     private static void refusals() {
         for (int sort = 0; sort < Given.SORTS; sort++) {
             boolean answers = sort == Given.HEAVY || sort == Given.RANKS;
-            SketchSpans spans = Given.oneOf(sort, 16, 0);
+            Counted spans = Given.oneOf(sort, 16, 0);
             spans.come(0, 3, 2);
             Check.due("low of sort " + sort, spans.low(0, 3), answers ? 2 : Given.BAD);
             Check.due("KEY 10000", spans.low(0, 10000), Given.BAD);

@@ -10,7 +10,7 @@ final class Promise09HighTest {
     }
 
     private static void heavy() {
-        SketchSpans spans = Given.oneOf(Given.HEAVY, 2, 0);
+        Counted spans = Given.oneOf(Given.HEAVY, 2, 0);
         Check.due("nothing came", spans.high(0, 4), 0);
         spans.come(0, 4, 10);
         spans.come(0, 8, 3);
@@ -22,7 +22,7 @@ final class Promise09HighTest {
     }
 
     private static void table() {
-        SketchSpans spans = Given.oneOf(Given.TABLE, 4, 33);
+        Counted spans = Given.oneOf(Given.TABLE, 4, 33);
         Check.due("nothing came", spans.high(0, 4), 0);
         for (int x = 0; x < 40; x++) {
             spans.come(0, x, x % 5 == 0 ? -30 : x);
@@ -30,7 +30,7 @@ final class Promise09HighTest {
         for (int x = 0; x < 60; x++) {
             int least = Integer.MAX_VALUE;
             for (int j = 0; j < 4; j++) {
-                int cell = spans.kept(0, 4 * j + spans.hash(33, j, x) % 4, 0) - Given.LIFT;
+                int cell = spans.kept(0, 4 * j + Given.hash(33, j, x) % 4, 0) - Given.LIFT;
                 least = Math.min(least, cell);
             }
             Check.due("high(0, " + x + ")", spans.high(0, x), least);
@@ -41,7 +41,7 @@ final class Promise09HighTest {
     }
 
     private static void tableAtTheBrim() {
-        SketchSpans spans = Given.oneOf(Given.TABLE, 4, 33);
+        Counted spans = Given.oneOf(Given.TABLE, 4, 33);
         spans.sketch(Given.TABLE, 4, 33);
         Given.fillToTheBrim(spans, 9, 1000);
         Check.due("the most", spans.high(0, 9), 10_000_000);
@@ -51,7 +51,7 @@ final class Promise09HighTest {
     }
 
     private static void ranks() {
-        SketchSpans spans = Given.oneOf(Given.RANKS, 4, 0);
+        Counted spans = Given.oneOf(Given.RANKS, 4, 0);
         Check.due("nothing came", spans.high(0, 9999), 0);
         Given.comeEach(spans, 0, 2, 4);
         Check.due("high(0, 1)", spans.high(0, 1), 0);
@@ -69,7 +69,7 @@ final class Promise09HighTest {
     private static void refusals() {
         for (int sort = 0; sort < Given.SORTS; sort++) {
             boolean answers = sort == Given.HEAVY || sort == Given.TABLE || sort == Given.RANKS;
-            SketchSpans spans = Given.oneOf(sort, 16, 0);
+            Counted spans = Given.oneOf(sort, 16, 0);
             spans.come(0, 3, 2);
             Check.due("high of sort " + sort, spans.high(0, 3), answers ? 2 : Given.BAD);
             Check.due("KEY 10000", spans.high(0, 10000), Given.BAD);

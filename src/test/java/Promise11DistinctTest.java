@@ -10,7 +10,7 @@ final class Promise11DistinctTest {
     }
 
     private static void fewAreCountedJustSo() {
-        SketchSpans spans = Given.oneOf(Given.LEAST, 5, 123);
+        Counted spans = Given.oneOf(Given.LEAST, 5, 123);
         Check.due("nothing came", spans.distinct(0), 0);
         Given.comeEach(spans, 0, 8, 8, 9, 8);
         Check.due("two", spans.distinct(0), 2);
@@ -20,7 +20,7 @@ final class Promise11DistinctTest {
 
     private static void manyAreGuessed() {
         // By SEED 0 HASH 0 of x is x + 1.
-        SketchSpans spans = Given.oneOf(Given.LEAST, 3, 0);
+        Counted spans = Given.oneOf(Given.LEAST, 3, 0);
         Given.comeEach(spans, 0, 10, 20, 9999);
         Check.due("2 * 65537 / 10000", spans.distinct(0), 13);
         Given.comeEach(spans, 0, 99);
@@ -30,12 +30,12 @@ final class Promise11DistinctTest {
     }
 
     private static void sizesAtTheEdges() {
-        SketchSpans two = Given.oneOf(Given.LEAST, 2, 0);
+        Counted two = Given.oneOf(Given.LEAST, 2, 0);
         Given.comeEach(two, 0, 0);
         Check.due("one", two.distinct(0), 1);
         Given.comeEach(two, 0, 1);
         Check.due("65537 / 2", two.distinct(0), 32768);
-        SketchSpans most = Given.oneOf(Given.LEAST, 32, 0);
+        Counted most = Given.oneOf(Given.LEAST, 32, 0);
         for (int x = 0; x < 31; x++) {
             most.come(0, x, 1000);
         }
@@ -45,7 +45,7 @@ final class Promise11DistinctTest {
     }
 
     private static void leastHashes() {
-        SketchSpans spans = Given.oneOf(Given.LEAST, 2, 3);
+        Counted spans = Given.oneOf(Given.LEAST, 2, 3);
         Check.due("hash(3, 0, 7668)", spans.hash(3, 0, 7668), 0);
         Check.due("hash(3, 0, 4182)", spans.hash(3, 0, 4182), 1);
         Given.comeEach(spans, 0, 7668);
@@ -59,7 +59,7 @@ final class Promise11DistinctTest {
 
     private static void refusals() {
         for (int sort = 0; sort < Given.SORTS; sort++) {
-            SketchSpans spans = Given.oneOf(sort, 16, 0);
+            Counted spans = Given.oneOf(sort, 16, 0);
             spans.come(0, 3, 2);
             Check.due("distinct of sort " + sort, spans.distinct(0), sort == Given.LEAST ? 1 : Given.BAD);
             Check.due("SKETCH 1", spans.distinct(1), Given.BAD);

@@ -9,7 +9,7 @@ final class Promise12QuantileTest {
     }
 
     private static void byHand() {
-        SketchSpans spans = Given.oneOf(Given.RANKS, 4, 0);
+        Counted spans = Given.oneOf(Given.RANKS, 4, 0);
         Given.comeEach(spans, 0, 2, 4, 6, 8, 5);
         // 2 6 with WEIGHT 2, 5 with 1.
         int[] want = {2, 2, 5, 6, 6};
@@ -21,7 +21,7 @@ final class Promise12QuantileTest {
     }
 
     private static void ofTheEdgesOfKeys() {
-        SketchSpans spans = Given.oneOf(Given.RANKS, 32, 0);
+        Counted spans = Given.oneOf(Given.RANKS, 32, 0);
         spans.come(0, 9999, 2);
         Check.due("quantile(0, 1)", spans.quantile(0, 1), 9999);
         spans.come(0, 0, 1);
@@ -34,7 +34,7 @@ final class Promise12QuantileTest {
     }
 
     private static void atTheBrim() {
-        SketchSpans spans = Given.oneOf(Given.RANKS, 4, 0);
+        Counted spans = Given.oneOf(Given.RANKS, 4, 0);
         spans.sketch(Given.RANKS, 4, 0);
         Given.fillToTheBrim(spans, 77, 100);
         Check.due("the first", spans.quantile(0, 1), 77);
@@ -44,7 +44,7 @@ final class Promise12QuantileTest {
 
     private static void refusals() {
         for (int sort = 0; sort < Given.SORTS; sort++) {
-            SketchSpans spans = Given.oneOf(sort, 16, 0);
+            Counted spans = Given.oneOf(sort, 16, 0);
             Check.due("nothing came", spans.quantile(0, 1), Given.BAD);
             Check.due("nothing came", spans.quantile(0, 0), Given.BAD);
             spans.come(0, 3, 2);

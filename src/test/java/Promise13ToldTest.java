@@ -10,14 +10,14 @@ final class Promise13ToldTest {
         Check.end();
     }
 
-    private static void toldIs(SketchSpans spans, int... want) {
+    private static void toldIs(Counted spans, int... want) {
         for (int what = 0; what < want.length; what++) {
             Check.due("told(0, " + what + ")", spans.told(0, what), want[what]);
         }
     }
 
     private static void heavy() {
-        SketchSpans spans = Given.oneOf(Given.HEAVY, 1, 999);
+        Counted spans = Given.oneOf(Given.HEAVY, 1, 999);
         spans.come(0, 4, 10);
         spans.come(0, 5, 3);
         toldIs(spans, 0, 1, 999, Given.LIFT + 13, 13, 3, 1);
@@ -26,7 +26,7 @@ final class Promise13ToldTest {
     }
 
     private static void table() {
-        SketchSpans spans = Given.oneOf(Given.TABLE, 64, 3);
+        Counted spans = Given.oneOf(Given.TABLE, 64, 3);
         spans.come(0, 4, -10);
         spans.come(0, 4, 3);
         toldIs(spans, 1, 64, 3, Given.LIFT - 7, 13, 0, 4);
@@ -39,7 +39,7 @@ final class Promise13ToldTest {
     }
 
     private static void filter() {
-        SketchSpans spans = Given.oneOf(Given.FILTER, 512, 0);
+        Counted spans = Given.oneOf(Given.FILTER, 512, 0);
         spans.come(0, 0, 10);
         spans.come(0, 0, 3);
         // HASHES 1, 5369, 10737, 16105 modulo 512.
@@ -51,7 +51,7 @@ final class Promise13ToldTest {
     }
 
     private static void least() {
-        SketchSpans spans = Given.oneOf(Given.LEAST, 2, 7);
+        Counted spans = Given.oneOf(Given.LEAST, 2, 7);
         spans.come(0, 4, 10);
         toldIs(spans, 3, 2, 7, Given.LIFT + 10, 10, 0, 1);
         spans.come(0, 5, 10);
@@ -60,7 +60,7 @@ final class Promise13ToldTest {
     }
 
     private static void ranks() {
-        SketchSpans spans = Given.oneOf(Given.RANKS, 4, 1);
+        Counted spans = Given.oneOf(Given.RANKS, 4, 1);
         spans.come(0, 4, 3);
         toldIs(spans, 4, 4, 1, Given.LIFT + 3, 3, 0, 3);
         spans.come(0, 5, 2);
@@ -71,7 +71,7 @@ final class Promise13ToldTest {
 
     private static void refusals() {
         for (int sort = 0; sort < Given.SORTS; sort++) {
-            SketchSpans spans = Given.oneOf(sort, 16, 0);
+            Counted spans = Given.oneOf(sort, 16, 0);
             Check.due("what 7", spans.told(0, 7), Given.BAD);
             Check.due("SKETCH 1", spans.told(1, 0), Given.BAD);
             for (int wild : Given.WILD) {

@@ -15,7 +15,7 @@ final class Promise14KeptTest {
     }
 
     private static void heavy() {
-        SketchSpans spans = Given.oneOf(Given.HEAVY, 20, 0);
+        Counted spans = Given.oneOf(Given.HEAVY, 20, 0);
         for (int i = 0; i < 20; i++) {
             spans.come(0, i * 7 % 20, 1 + i);
         }
@@ -30,7 +30,7 @@ final class Promise14KeptTest {
     }
 
     private static void table() {
-        SketchSpans spans = Given.oneOf(Given.TABLE, 4, 0);
+        Counted spans = Given.oneOf(Given.TABLE, 4, 0);
         spans.come(0, 0, -5);
         // HASHES 1, 5369, 10737, 16105: each is 1 modulo 4.
         int none = Given.LIFT;
@@ -41,7 +41,7 @@ final class Promise14KeptTest {
     }
 
     private static void tableAtTheBrim() {
-        SketchSpans spans = Given.oneOf(Given.TABLE, 4, 0);
+        Counted spans = Given.oneOf(Given.TABLE, 4, 0);
         spans.sketch(Given.TABLE, 4, 0);
         Given.fillToTheBrim(spans, 0, 1000);
         Check.due("the most", spans.kept(0, 1, 0), 20_000_000);
@@ -51,7 +51,7 @@ final class Promise14KeptTest {
     }
 
     private static void filter() {
-        SketchSpans spans = Given.oneOf(Given.FILTER, 16, 0);
+        Counted spans = Given.oneOf(Given.FILTER, 16, 0);
         spans.come(0, 0, 1);
         // HASHES 1, 5369, 10737, 16105 are 1, 9, 1, 9 modulo 16.
         Given.keptIs(spans, 0, 0, 0, 1, 0, 0, 0, 0, 0, 0, 0, 1, 0, 0, 0, 0, 0, 0);
@@ -59,7 +59,7 @@ final class Promise14KeptTest {
     }
 
     private static void least() {
-        SketchSpans spans = Given.oneOf(Given.LEAST, 4, 0);
+        Counted spans = Given.oneOf(Given.LEAST, 4, 0);
         Given.keptIs(spans, 0, 0);
         Given.comeEach(spans, 0, 9, 5, 7);
         Given.keptIs(spans, 0, 0, 6, 8, 10);
@@ -67,7 +67,7 @@ final class Promise14KeptTest {
     }
 
     private static void ranks() {
-        SketchSpans spans = Given.oneOf(Given.RANKS, 4, 0);
+        Counted spans = Given.oneOf(Given.RANKS, 4, 0);
         Given.comeEach(spans, 0, 9, 5, 7, 1, 8, 3, 3);
         Given.bufferIs(spans, 0, 0, 8, 3, 3);
         Given.bufferIs(spans, 0, 1, 1, 7);
@@ -80,7 +80,7 @@ final class Promise14KeptTest {
     }
 
     private static void ranksAtTheBrim() {
-        SketchSpans spans = Given.oneOf(Given.RANKS, 4, 0);
+        Counted spans = Given.oneOf(Given.RANKS, 4, 0);
         spans.sketch(Given.RANKS, 4, 0);
         Given.fillToTheBrim(spans, 12, 100);
         long weight = 0;
@@ -93,7 +93,7 @@ final class Promise14KeptTest {
     }
 
     private static void refusals(int sort) {
-        SketchSpans spans = Given.oneOf(sort, 16, 0);
+        Counted spans = Given.oneOf(sort, 16, 0);
         spans.come(0, 3, 2);
         Check.due("SKETCH 1", spans.kept(1, 0, 0), Given.BAD);
         Check.due("i -2", spans.kept(0, -2, 0), Given.BAD);

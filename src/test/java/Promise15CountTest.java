@@ -1,7 +1,7 @@
 /** Promise 15: count. */
 final class Promise15CountTest {
     public static void main(String[] args) {
-        SketchSpans spans = new SketchSpans();
+        Counted spans = new Counted();
         Check.due("none", spans.count(), 0);
         spans.sketch(Given.HEAVY, 3, 0);
         Check.due("one", spans.count(), 1);
