@@ -14,9 +14,11 @@ final class EdgesOfRanksTest {
         sameKeysCollapse();
         madeOneWithoutACollapse();
         madeOneWithACollapseBetween();
+        collapseBetweenIsNotBehind();
         madeOneFromBufferZeroOn();
         madeOneWithItsOwnTurns();
         madeOneWithAnEmptyOne();
+        buffersAboveGetHalfASize();
         copyHasTheTurns();
         lowIsNotBelowZero();
         highIsNotAboveTotal();
@@ -194,6 +196,26 @@ final class EdgesOfRanksTest {
         errorIs(most, 1, 0);
     }
 
+    /** The same KEYS, which would give other ones if all came before BUFFER 0 COLLAPSED, or were put in order first. */
+    private static void collapseBetweenIsNotBehind() {
+        for (int size : new int[] {4, 32}) {
+            Counted spans = Given.oneOf(Given.RANKS, size, 0);
+            spans.sketch(Given.RANKS, size, 0);
+            comeFromTo(spans, 0, 5001, 5000 + size - 1);
+            // The greatest one comes first and so is the last that BUFFER 0 takes before it COLLAPSES.
+            spans.come(1, 9999, 1);
+            comeFromTo(spans, 1, 1, size - 2);
+            spans.merge(0, 1);
+            spans.due(size - 2, spans.kept(0, -1, 0));
+            spans.due(1, spans.kept(0, 0, 0));
+            spans.due(size - 2, spans.kept(0, size - 3, 0));
+            spans.due(size / 2, spans.kept(0, -1, 1));
+            spans.due(5001, spans.kept(0, 0, 1));
+            spans.due(5000 + size - 1, spans.kept(0, size / 2 - 1, 1));
+            errorIs(spans, 0, 1);
+        }
+    }
+
     /** "from its BUFFER 0 on, as they lie"; "its ERROR is added" */
     private static void madeOneFromBufferZeroOn() {
         Counted spans = twoOfFour();
@@ -242,6 +264,25 @@ final class EdgesOfRanksTest {
         Given.bufferIs(spans, 1, 0, 7);
         Given.bufferIs(spans, 1, 1, 1, 3);
         errorIs(spans, 1, 1);
+    }
+
+    /** A COLLAPSE hands on k / 2 KEYS, so that a BUFFER above 0 has none or k / 2 when a call ends. */
+    private static void buffersAboveGetHalfASize() {
+        for (int size = 4; size <= 32; size += 2) {
+            Counted spans = Given.oneOf(Given.RANKS, size, 0);
+            spans.sketch(Given.RANKS, size, 0);
+            for (int time = 0; time < 20; time++) {
+                spans.come(time % 2, 37 * time, 1 + 29 * time % 100);
+                if (time % 4 == 3) {
+                    spans.merge(time / 4 % 2, 1 - time / 4 % 2);
+                }
+                for (int buffer = 1; buffer <= 8; buffer++) {
+                    int length = spans.kept(time % 2, -1, buffer);
+                    Check.holds("BUFFER " + buffer + " of " + size + " has " + length,
+                            length == 0 || length == size / 2);
+                }
+            }
+        }
     }
 
     /** Promise 3: "as one is": the TURN of BUFFER 0 is 1, that of BUFFER 1 is 0. */
